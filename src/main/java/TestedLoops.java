@@ -498,12 +498,12 @@ public final class TestedLoops {
 
         private void scan(byte[] text, int length) {
             int found = 0;
-            int past = 0;
-            for (int at = 0; at < length; at = past) {
+            for (int at = 0; at < length; at++) {
                 int sign = text[at] & 255;
-                past = isLetter(sign) ? wordEnd(text, at, length) : at + 1;
-                if (sign != BLANK) {
-                    tokens[found] = isLetter(sign) ? wordToken(text, at, past) : signToken(sign);
+                boolean withinWord = isLetter(sign) && at > 0 && isLetter(text[at - 1] & 255);
+                if (sign != BLANK && !withinWord) {
+                    tokens[found] = isLetter(sign)
+                        ? wordToken(text, at, wordEnd(text, at, length)) : signToken(sign);
                     begins[found] = at;
                     found++;
                 }

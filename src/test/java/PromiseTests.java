@@ -150,6 +150,11 @@ public final class PromiseTests {
         fault("whil b do p od", 0);
         fault("p;whileb do p od", 2);
         fault("pq", 0);
+        fault("pz", 0);
+        fault("az", 0);
+        fault("whilee b do p od", 0);
+        fault(";".repeat(300), 0);
+        fault("want " + "!".repeat(295), 13);
         fault("p;\tq", 2);
         fault("p\n", 1);
         fault("p@", 1);
@@ -192,6 +197,11 @@ public final class PromiseTests {
         fault("if b then p", 11);
         fault("if b then p;", 12);
         fault("if b then p; fi", 13);
+        fault("if b then ; p p", 10);
+        fault("if b then p else ; p p", 17);
+        fault("if b ; p p", 5);
+        fault("while b do ; p p", 11);
+        fault("while b ; p p", 8);
         fault("if b then p else", 16);
         fault("if b then p else fi", 17);
         fault("if b then p else q", 18);
@@ -372,6 +382,9 @@ public final class PromiseTests {
             due("alike bad first", x.alike(i, 0), BAD);
             due("alike bad second", x.alike(0, i), BAD);
         }
+        TestedLoops z = Checks.with("want b; p", "p");
+        due("within, not alike", z.alike(0, 1), 0);
+        due("round it, not alike", z.alike(1, 0), 0);
         TestedLoops y = Checks.with("p; p; while 1 do skip od", "stop", "q; want 0", "p; stop; q");
         for (int i = 0; i < 4; i++) {
             due("none let", y.alike(0, i), 1);
@@ -474,6 +487,12 @@ public final class PromiseTests {
         due("behind stop", y.dead(0), 2);
         due("a loop that is left too", y.dead(1), 4);
         due("by tests that can't both be", y.dead(2), 2);
+        for (int atom = 0; atom < 4; atom++) {
+            Checks.tell(y, 3, "want " + (atom % 2 == 1 ? "b" : "!b") + " & " + (atom > 1 ? "c" : "!c") + "; r");
+            due("come to by atom " + atom + " alone", y.dead(3), 0);
+        }
+        Checks.tell(y, 3, "while 1 do if b then if c then p; stop fi; q else want c; r; want !b; skip fi od");
+        due("a loop that is never left", y.dead(3), 14);
     }
 
     private static void fewest() {
@@ -495,6 +514,14 @@ public final class PromiseTests {
         due("not come to are left out", y.fewest(0), 2);
         Checks.tell(y, 0, "if b then p; want b else q; want b fi; if b then r else r fi");
         due("same rows from p and q on", y.fewest(0), 3);
+        Checks.tell(y, 0, "if b then p; if c then stop fi else q; if c then r; stop fi fi");
+        due("stuck and never ending are the same", y.fewest(0), 2);
+        Checks.tell(y, 0, "if b then p; want b | c else q fi");
+        due("told apart by atom 0", y.fewest(0), 3);
+        Checks.tell(y, 0, "if b then p; want !b | !c else q fi");
+        due("told apart by atom 3", y.fewest(0), 3);
+        Checks.tell(y, 0, "if b then p; q else q; r fi");
+        due("told apart by acts", y.fewest(0), 4);
     }
 
     private static void ahead() {
@@ -507,6 +534,7 @@ public final class PromiseTests {
         due("not c: none let", x.ahead(3, 0), 3);
         due("all", x.ahead(3, 5), 15);
         due("not all", x.ahead(3, 4), 3);
+        due("every atom", x.ahead(3, 15), 15);
         due("set 16", x.ahead(0, 16), BAD);
         due("set -1", x.ahead(0, -1), BAD);
         for (int i : NO_PROGRAMS) {
