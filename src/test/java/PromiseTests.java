@@ -522,6 +522,8 @@ public final class PromiseTests {
         due("told apart by atom 3", y.fewest(0), 3);
         Checks.tell(y, 0, "if b then p; q else q; r fi");
         due("told apart by acts", y.fewest(0), 4);
+        Checks.tell(y, 0, "while b do if c then r;q else " + "r;".repeat(13) + "p;want c fi od");
+        due("told apart by acts, with all places", y.fewest(0), 16);
     }
 
     private static void ahead() {
