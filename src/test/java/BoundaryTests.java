@@ -24,6 +24,7 @@ public final class BoundaryTests {
         cleared();
         becomesProgram();
         nothingOfTheOldOne();
+        nothingOfAnotherQuestion();
         placesAsTheyStand();
         actOfAPlace();
         fromAPlaceWithAnAtom();
@@ -253,6 +254,30 @@ public final class BoundaryTests {
         }
     }
 
+    /** An answer hangs on nothing that was asked about another program ahead of it. */
+    private static void nothingOfAnotherQuestion() {
+        String[] texts = {SIXTEEN, "if c then while b do p od else while b do p od fi", "p; q", "stop", "while b do p od",
+            "r; p; want c", "if b then p; q; r; p else skip fi", "while b do p; while c do p od od"};
+        for (String first : texts) {
+            for (String then : texts) {
+                TestedLoops x = Checks.with(then, first, "stop");
+                TestedLoops fresh = Checks.with(then, first, "stop");
+                sameAsNew(first + " asked, too", x, 1, Checks.with(first));
+                x.many(1, 14);
+                x.apart(1, 2);
+                x.walk(1, 12, 4 * POWERS[12] - 1, 0);
+                sameAsNew(then + " behind " + first, x, 0, Checks.with(then));
+                due("many", x.many(0, 5), fresh.many(0, 5));
+                due("walk", x.walk(0, 1, 13, 1), fresh.walk(0, 1, 13, 1));
+                due("lets", x.lets(0, 0, 2), fresh.lets(0, 0, 2));
+                due("apart", x.apart(0, 2), fresh.apart(0, 2));
+                due("far", x.far(1, 0), fresh.far(1, 0));
+                due("within", x.within(0, 1), fresh.within(0, 1));
+                due("alike", x.alike(0, 1), fresh.alike(0, 1));
+            }
+        }
+    }
+
     private static void sameAsNew(String told, TestedLoops x, int i, TestedLoops fresh) {
         for (int place = 0; place <= 16; place++) {
             due("act of " + told, x.act(i, place), fresh.act(0, place));
@@ -401,7 +426,8 @@ public final class BoundaryTests {
     private static void rowsInOrder() {
         apartIs("fewer acts go first", "want b&c", "want !b&!c; p; want !b&!c", 0, 3);
         apartIs("the first atom tells first", "want b; p", "want c; p", 1, Checks.row("1p0"));
-        apartIs("then the act", "if b then q; want b&c else r; want 0 fi", "want b; r; want !b&!c", 1, Checks.row("1q3"));
+        apartIs("then the act", "if b then q; want b&c else r; want 0 fi", "want b; r; want !b&!c", 1,
+            Checks.row("1q3"));
         apartIs("then the atom behind it", "p; want b", "p; want c", 1, Checks.row("0p1"));
         apartIs("then the next act", "p; if b then q; want b&c else r; want 0 fi", "p; want b; r", 2,
             Checks.row("0p1q3"));
@@ -504,6 +530,12 @@ public final class BoundaryTests {
         due("acts that never come to an end", x.dead(0), 131070);
         Checks.tell(x, 0, "while 1 do " + SIXTEEN + ";want !b od");
         due("nor by a want", x.dead(0), 131070);
+        Checks.tell(x, 0, "want b; while c do if !b then p else q fi od");
+        due("the first is come to from the last alone", x.dead(0), 0);
+        Checks.tell(x, 0, "want b; while c do if !b then p; want !b else q fi od");
+        due("come to from the last, with an end", x.dead(0), 0);
+        Checks.tell(x, 0, "want b; while c do if !b then p; stop else q fi od");
+        due("come to from the last, without one", x.dead(0), 2);
     }
 
     /** "how many PLACES are told apart .. (0 too), those from which none is LET left out, DEAD ones too". */
@@ -513,6 +545,7 @@ public final class BoundaryTests {
         fewestIs("skip", 1);
         fewestIs("want b & c", 1);
         fewestIs("while b do p od", 1);
+        fewestIs("if c then while b do p od else while b do p od fi", 1);
         fewestIs("p", 2);
         fewestIs(SIXTEEN, 17);
         fewestIs("if 1 then skip else " + SIXTEEN + " fi", 1);

@@ -65,7 +65,8 @@ public final class TokenTests {
             spot("want (" + test, " | & ) ");
             spot("want (" + test + "| (" + test, " | & ) ");
         }
-        for (String ahead : List.of("if ", "while ", "want ", "want !", "want (", "want b|", "want b&", "want (b|", "want !!")) {
+        for (String ahead : List.of("if ", "while ", "want ", "want !", "want (", "want b|", "want b&", "want (b|",
+            "want !!")) {
             spot(ahead, ONE);
         }
     }
