@@ -181,6 +181,7 @@ public final class BoundaryTests {
         due("with all of it", x.behind(0, 15), 14);
         due("a long test with &", Checks.tell(x, 0, "want b" + "&1".repeat(146) + "&c"), 0);
         due("with all of that", x.behind(0, 15), 8);
+        x = new TestedLoops();
         due("it ends too early", Checks.tell(x, 0, "skip;".repeat(60)), -310);
         due("too early within a word", Checks.tell(x, 0, "skip;".repeat(59) + "p;ski"), -10 - 297);
         due("the last byte begins none", Checks.tell(x, 0, "p" + " ".repeat(298) + "@"), -309);
@@ -396,8 +397,8 @@ public final class BoundaryTests {
 
     /** "told as a number: to the base of 12, from the highest"; the first and the last of each length. */
     private static void rowNumbers() {
-        TestedLoops x = new TestedLoops();
         for (int n = 0; n <= 12; n++) {
+            TestedLoops x = new TestedLoops();
             String least = "want !b&!c" + ";p;want !b&!c".repeat(n);
             String most = "want b&c" + ";r;want b&c".repeat(n);
             due("least", Checks.tell(x, 0, least), n);
@@ -509,8 +510,8 @@ public final class BoundaryTests {
 
     /** "DEAD, as bits (of PLACE k bit k)": "PLACES (of ACTS) that are in no ROW that is LET". */
     private static void deadBits() {
-        TestedLoops x = new TestedLoops();
         for (int k = 1; k <= 16; k++) {
+            TestedLoops x = new TestedLoops();
             String ahead = "p;".repeat(k - 1);
             String behind = ";p".repeat(16 - k);
             due("16 places", Checks.tell(x, 0, ahead + "if 0 then q fi" + behind), 16);
@@ -520,6 +521,7 @@ public final class BoundaryTests {
             Checks.tell(x, 2, ahead + "q;stop" + behind);
             due("all by stop behind place " + k, x.dead(2), 0x1fffe);
         }
+        TestedLoops x = new TestedLoops();
         due("all 16 are in rows", Checks.tell(x, 0, SIXTEEN), 16);
         due("none is dead", x.dead(0), 0);
         Checks.tell(x, 0, SIXTEEN + ";want 0");
