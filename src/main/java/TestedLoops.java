@@ -8,6 +8,7 @@ public final class TestedLoops {
     private static final int PROGRAMS = 4;
     private static final int ATOMS = 4;
     private static final int ACTS = 3;
+    private static final int NO_ACT = 0;
     private static final int NO_ATOM = 0;
     private static final int ALL_ATOMS = 15;
     private static final int MOST_BYTES = 300;
@@ -21,7 +22,7 @@ public final class TestedLoops {
 
     /** The end of a program, where else the place of an act would stand. */
     private static final int END = 0;
-    /** Stands for "no place any more": behind all places, so that tables can have a row for it. */
+    /** Stands for "no place any more": behind all places, so that rows of pairs have room for it. */
     private static final int LOST = MOST_PLACES + 1;
 
     private static final int PART = 0, ACT = 1, CHOICE = 2, LOOP = 3, WANT = 4;
@@ -31,16 +32,14 @@ public final class TestedLoops {
     private final byte[] text = new byte[MOST_BYTES];
     private int length;
     private final Plan[] plans = new Plan[PROGRAMS];
-    /** A text is read into this one, so that a fault leaves the programs as they were. */
-    private Plan spare = new Plan();
     private final Reader reader = new Reader();
     private final Pairs pairs = new Pairs();
     private final Groups groups = new Groups();
     private final Part[] kinds = {new Part(), new Act(), new Choice(), new Loop(), new Want()};
     private final Trace trace = new Trace();
     private final int[] digits = new int[MOST_ACTS_GIVEN + 1];
-    private final long[] ways = new long[LOST + 1];
-    private final long[] longerWays = new long[LOST + 1];
+    private final long[] ways = new long[MOST_PLACES + 1];
+    private final long[] longerWays = new long[MOST_PLACES + 1];
     private int came;
     private int goesTo;
 
@@ -76,36 +75,31 @@ public final class TestedLoops {
         if (!isProgram(i)) {
             return BAD;
         }
-        int fault = reader.read(text, length, spare);
+        int fault = reader.read(text, length);
         if (fault != NO_FAULT) {
             return -10 - fault;
         }
-        Plan old = plans[i];
-        plans[i] = spare;
-        spare = old;
+        plans[i] = reader.giveFor(plans[i]);
         length = 0;
         return plans[i].places;
     }
 
     public int next(int i, int place, int atom, int what) {
-        if (!isProgram(i) || place < 0 || place > plans[i].places) {
+        if (!isProgram(i) || !plans[i].canGoFrom(place)) {
             return BAD;
         }
         if (atom < 0 || atom >= ATOMS || what < 0 || what > 1) {
             return BAD;
         }
         int goes = plans[i].goes(place, atom);
-        if (what == 0) {
-            return goes;
-        }
-        return goes > END ? plans[i].actOf[goes] : 0;
+        return what == 0 ? goes : plans[i].actAt(goes);
     }
 
     public int act(int i, int place) {
-        if (!isProgram(i) || place < 1 || place > plans[i].places) {
+        if (!isProgram(i) || !plans[i].isPlace(place)) {
             return BAD;
         }
-        return plans[i].actOf[place];
+        return plans[i].actAt(place);
     }
 
     // ---- two programs
@@ -268,7 +262,7 @@ public final class TestedLoops {
             long sum = 0;
             for (int atom = 0; atom < ATOMS; atom++) {
                 int goes = plan.goes(place, atom);
-                sum += goes > END ? ways[goes] : 0;
+                sum += plan.isPlace(goes) ? ways[goes] : 0;
             }
             longerWays[place] = sum;
         }
@@ -297,7 +291,7 @@ public final class TestedLoops {
         came = 0;
         goesTo = plan.goes(0, digits[0]);
         for (int k = 1; k <= n; k++) {
-            if (goesTo <= END || plan.actOf[goesTo] != digits[k] / ATOMS + 1) {
+            if (plan.actAt(goesTo) != digits[k] / ATOMS + 1) {
                 return;
             }
             came++;
@@ -318,7 +312,7 @@ public final class TestedLoops {
         final int[] stepOf = new int[MOST_PLACES + 1];
         final int[] actOf = new int[MOST_PLACES + 1];
         int places;
-        final int[] table = new int[(LOST + 1) * ATOMS];
+        final int[] table = new int[(MOST_PLACES + 1) * ATOMS];
         final int[] lasts = new int[MOST_PLACES + 1];
         int reached;
 
@@ -356,14 +350,14 @@ public final class TestedLoops {
 
         /** What a statement's size counts: its act's number, or the atoms that its test lets. */
         int numberOf(int step) {
-            return kind[step] == ACT ? actOf[to[step]] : Integer.bitCount(atoms[step]);
+            return kind[step] == ACT ? actAt(to[step]) : Integer.bitCount(atoms[step]);
         }
 
         /** Works out what the calls ask again and again. */
         void settle() {
-            for (int place = 0; place <= LOST; place++) {
+            for (int place = 0; place <= places; place++) {
                 for (int atom = 0; atom < ATOMS; atom++) {
-                    table[place * ATOMS + atom] = place <= places ? run(place, atom) : NONE;
+                    table[place * ATOMS + atom] = run(place, atom);
                 }
             }
             gatherLasts();
@@ -416,21 +410,37 @@ public final class TestedLoops {
         private void reachFrom(int place) {
             for (int atom = 0; atom < ATOMS; atom++) {
                 int goes = goes(place, atom);
-                if (goes > END) {
+                if (isPlace(goes)) {
                     reached |= 1 << goes;
                 }
             }
         }
 
-        /** The act's place that it comes to, or END, or NONE. */
+        /** Whether an act's place has this number. */
+        boolean isPlace(int place) {
+            return place > 0 && place <= places;
+        }
+
+        /** The beginning is no act's place, but it goes on from there too. */
+        boolean canGoFrom(int place) {
+            return place >= 0 && place <= places;
+        }
+
+        /** NO_ACT where there is no act's place. */
+        int actAt(int place) {
+            return isPlace(place) ? actOf[place] : NO_ACT;
+        }
+
+        /** The act's place that it comes to, or END, or NONE; from LOST it comes nowhere. */
         int goes(int place, int atom) {
-            return table[place * ATOMS + atom];
+            boolean stands = canGoFrom(place) && atom >= 0 && atom < ATOMS;
+            return stands ? table[place * ATOMS + atom] : NONE;
         }
 
         /** The place that it comes to, if the act there is this one, or else LOST. */
         int goesBy(int place, int atom, int act) {
             int goes = goes(place, atom);
-            return goes > END && actOf[goes] == act ? goes : LOST;
+            return actAt(goes) == act ? goes : LOST;
         }
 
         /** The last atoms of the rows that are let from the place on and begin with the atom. */
@@ -439,7 +449,7 @@ public final class TestedLoops {
             if (goes == END) {
                 return 1 << atom;
             }
-            return goes > END ? lasts[goes] : 0;
+            return isPlace(goes) ? lasts[goes] : NO_ATOM;
         }
 
         /** With how many atoms it goes from the place to its end. */
@@ -453,7 +463,7 @@ public final class TestedLoops {
 
         /** Whether the place is in a row that is let. */
         boolean isLive(int place) {
-            return holds(reached, place) && lasts[place] != 0;
+            return canGoFrom(place) && holds(reached, place) && lasts[place] != NO_ATOM;
         }
     }
 
@@ -478,14 +488,14 @@ public final class TestedLoops {
         private final int[] begins = new int[MOST_BYTES + 1];
         private int now;
         private int fault;
-        private Plan plan;
+        /** No program's own plan, so that a fault leaves the programs as they were. */
+        private Plan plan = new Plan();
 
         Reader() {
         }
 
         /** NO_FAULT, or the place of the fault; then the plan is of no use. */
-        int read(byte[] text, int length, Plan into) {
-            plan = into;
+        int read(byte[] text, int length) {
             plan.empty();
             scan(text, Math.min(length, MOST_BYTES));
             now = 0;
@@ -494,6 +504,13 @@ public final class TestedLoops {
                 plan.settle();
             }
             return fault;
+        }
+
+        /** Gives away the plan that was read; the next text is read into the old one. */
+        Plan giveFor(Plan old) {
+            Plan given = plan;
+            plan = old;
+            return given;
         }
 
         private void scan(byte[] text, int length) {
@@ -768,7 +785,8 @@ public final class TestedLoops {
         private void note(int one, int other, int rowActs, long row) {
             int pair = one * SIDE + other;
             boolean bothLost = one == LOST && other == LOST;
-            if (bothLost || seen[pair] != 0 || known >= ones.length) {
+            boolean hasRoom = pair >= 0 && pair < seen.length && known < ones.length;
+            if (bothLost || !hasRoom || seen[pair] != 0) {
                 return;
             }
             seen[pair] = 1;
@@ -842,10 +860,10 @@ public final class TestedLoops {
             if (goes == END) {
                 return END;
             }
-            if (goes < END || !plan.isLive(goes)) {
+            if (!plan.isPlace(goes) || !plan.isLive(goes)) {
                 return TO_NOTHING;
             }
-            return plan.actOf[goes] * (LOST + 1) + first[goes];
+            return plan.actAt(goes) * (MOST_PLACES + 1) + first[goes];
         }
     }
 
