@@ -30,6 +30,7 @@ public final class FaceTests {
         classesInside();
         words();
         anyNumbers();
+        placesAreLookedAt();
         CHECKS.finish("FaceTests");
     }
 
@@ -159,6 +160,40 @@ public final class FaceTests {
         within("count", x.count(number(random, 2)), -1, 300);
         within("trace", x.trace(), 0, Long.MAX_VALUE);
         within("clear", random.nextInt(5) == 0 ? x.clear() : 0, 0, 300);
+    }
+
+    /** What a plan is asked of a place holds for any number, so no index is used before it is looked at. */
+    private static void placesAreLookedAt() throws Exception {
+        Class<?> type = Class.forName("TestedLoops$Plan");
+        Constructor<?> constructor = type.getDeclaredConstructor();
+        constructor.setAccessible(true);
+        Object plan = constructor.newInstance();
+        for (int place : new int[] {Integer.MIN_VALUE, -9, -1, 1, 16, 17, 18, 1 << 30, Integer.MAX_VALUE}) {
+            CHECKS.due("actAt " + place, asked(plan, "actAt", place), 0);
+            CHECKS.due("isLive " + place, asked(plan, "isLive", place), 0);
+            CHECKS.due("endings " + place, asked(plan, "endings", place), 0);
+            for (int atom : new int[] {Integer.MIN_VALUE, -1, 0, 3, 4, Integer.MAX_VALUE}) {
+                CHECKS.due("goes " + place + " " + atom, asked(plan, "goes", place, atom), -9);
+                CHECKS.due("lastsBy " + place + " " + atom, asked(plan, "lastsBy", place, atom), 0);
+            }
+        }
+        CHECKS.due("goes 0 -1", asked(plan, "goes", 0, -1), -9);
+        CHECKS.due("goes 0 4", asked(plan, "goes", 0, 4), -9);
+        CHECKS.due("goes 0 3", asked(plan, "goes", 0, 3), 0);
+        CHECKS.due("isLive 0", asked(plan, "isLive", 0), 1);
+    }
+
+    private static int asked(Object plan, String name, int... numbers) throws Exception {
+        Class<?>[] types = new Class<?>[numbers.length];
+        Object[] values = new Object[numbers.length];
+        for (int k = 0; k < numbers.length; k++) {
+            types[k] = int.class;
+            values[k] = numbers[k];
+        }
+        Method method = plan.getClass().getDeclaredMethod(name, types);
+        method.setAccessible(true);
+        Object answer = method.invoke(plan, values);
+        return answer instanceof Boolean ? ((Boolean) answer ? 1 : 0) : (Integer) answer;
     }
 
     private static int number(Random random, int below) {
